@@ -34,6 +34,7 @@ public final class PromisesTest {
         images();
         count();
         refusalsChangeNothing();
+        fullCover();
         System.out.println(wrong == 0 ? "all promises hold" : wrong + " answers are not as due");
         if (wrong != 0) {
             System.exit(1);
@@ -153,6 +154,7 @@ public final class PromisesTest {
         due("5 shear 60", x.slope(0, 60, 0), 9);
         due("5 shear 59", x.slope(0, 59, 0), 8);
         due("5 shear 6", x.slope(0, 6, 0), 0);
+        due("5 shear 0", x.slope(0, 0, 0), 0);
         due("5 shear 7", x.slope(0, 7, 0), 1);
         due("5 margin 100", x.slope(0, 100, 1), 266);
         due("5 margin 6", x.slope(0, 6, 1), 9999);
@@ -323,6 +325,17 @@ public final class PromisesTest {
         due("10 less by 3", x.goes(0, 94, 1), 0);
         due("10 weight alone", x.goes(0, 0, 20), 1);
         due("10 weight less", x.goes(0, 0, 19), 0);
+        // Depth 1, load 0: by 99 a press of 900, against a strength of 900 and then of 901.
+        SnowSlabs y = new SnowSlabs();
+        y.storm(10, 200, 1, 5);
+        y.storm(1, 30, 0, 1);
+        y.firm(1, 90);
+        due("10 press of 900", y.goes(0, 0, 99), 1);
+        SnowSlabs z = new SnowSlabs();
+        z.storm(10, 340, 1, 5);
+        z.storm(1, 30, 0, 1);
+        z.firm(1, 53);
+        due("10 no more than 900", z.goes(0, 0, 99), 0);
     }
 
     private static void steep() {
@@ -406,6 +419,10 @@ public final class PromisesTest {
         due("13 half", x.settle(50), 21 + 9 + 3 + 1);
         due("13 1 at least", x.settle(50), 10 + 9 + 1 + 1);
         due("13 as it was", x.layer(3, 0), 1);
+        due("13 dense by a THICK of 1", x.layer(2, 1), 600);
+        SnowSlabs y = new SnowSlabs();
+        y.storm(100, 100, 0, 1);
+        due("13 by 1", y.settle(1), 99);
     }
 
     private static void melt() {
@@ -485,6 +502,8 @@ public final class PromisesTest {
         due("17 hour 24", x.heat(0, 24, 0), -2);
         due("17 what -1", x.heat(0, 6, -1), -2);
         due("17 what 2", x.heat(0, 6, 2), -2);
+        due("17 hour 0", x.heat(2, 0, 0), 0);
+        due("17 hour 23", x.heat(2, 23, 0), 0);
         due("17 before 6", x.heat(2, 5, 0), 0);
         due("17 after 18", x.heat(6, 19, 0), 0);
         due("17 at 6", x.heat(2, 6, 0), 90);
@@ -637,5 +656,33 @@ public final class PromisesTest {
         due("refused: firm", x.count(10), 8);
         due("refused: blow", x.count(3), 10);
         due("refused: images", x.count(4), 0);
+    }
+
+    /** Ten layers: every row is used up to its end. */
+    private static void fullCover() {
+        SnowSlabs x = new SnowSlabs();
+        for (int n = 0; n < 10; n++) {
+            x.storm(10, 100, 3, 1 + n % 2 * 2);
+        }
+        due("full: breaks", x.taps(-1, 0), 9);
+        due("full: last tap", x.taps(8, 0), 9);
+        due("full: last layer", x.taps(8, 1), 0);
+        due("full: last is clean", x.taps(8, 2), 1);
+        due("full: no tenth", x.taps(9, 0), -6);
+        due("full: ground's load", x.layer(0, 7), 90);
+        due("full: ground's depth", x.layer(0, 6), 90);
+        due("full: weakest", x.weakest(100, 0), 0);
+        due("full: goes", x.goes(9, 0, 0), -3);
+        due("full: kept", x.image(0), 1);
+        due("full: settled", x.settle(10), 90);
+        due("full: packed", x.pack(11), 4);
+        due("full: melts", x.melt(1), 10);
+        due("full: freezes", x.freeze(), 10);
+        due("full: restored", x.restore(0), 1);
+        due("full: mass", x.count(2), 10000);
+        due("full: top is dry", x.layer(9, 4), 0);
+        due("full: slides", x.slide(), 9);
+        due("full: room again", x.storm(1, 30, 0, 1), 9);
+        due("full: no more", x.storm(1, 30, 0, 1), -4);
     }
 }
