@@ -421,8 +421,40 @@ public final class ModelTest {
         return true;
     }
 
-    public static void main(String[] args) {
+    /** On a new object each: what comes after 512 calls is free. */
+    private static boolean sameSun(Model model, int kind, int... a) {
+        int want = call(model, kind, a);
+        int got = call(new SnowSlabs(), kind, a);
+        if (got != want) {
+            System.out.println(NAMES[kind] + Arrays.toString(a) + " answered " + got + ", due is " + want);
+        }
+        return got == want;
+    }
+
+    /** The sun knows nothing of the snow, so all that can be asked of it is asked, with one beside each limit. */
+    private static int wholeSun() {
+        Model model = new Model();
         int wrong = 0;
+        for (int side = -1; side <= 8; side++) {
+            for (int hour = -1; hour <= 24; hour++) {
+                for (int what = -1; what <= 2; what++) {
+                    if (!sameSun(model, 15, side, hour, what)) wrong++;
+                }
+            }
+            for (int t = 0; t <= 1000; t++) {
+                if (!sameSun(model, 16, side, t)) wrong++;
+            }
+        }
+        for (int t = 0; t <= 1000; t++) {
+            for (int i = -2; i <= 8; i++) {
+                if (!sameSun(model, 17, t, i)) wrong++;
+            }
+        }
+        return wrong;
+    }
+
+    public static void main(String[] args) {
+        int wrong = wholeSun();
         int[] answered = new int[KINDS];
         for (int run = 0; run < RUNS; run++) {
             if (!sameRun(run, answered)) wrong++;
